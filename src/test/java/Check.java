@@ -6,8 +6,27 @@ final class Check {
         void make();
     }
 
+    /** The test of one sentence. */
+    interface Edge {
+        void hold(Check check);
+    }
+
     private int made;
     private int failed;
+    private String sentence = "";
+
+    /** A sentence of the document that names an edge, and its own test. */
+    void edge(String words, Edge edge) {
+        int before = made;
+        sentence = words + ": ";
+        try {
+            edge.hold(this);
+        } catch (RuntimeException e) {
+            tell(false, "an unasked " + e);
+        }
+        tell(made > before, "nothing was checked");
+        sentence = "";
+    }
 
     void same(String what, long got, long due) {
         tell(got == due, what + " answered " + got + ", due is " + due);
@@ -56,7 +75,7 @@ final class Check {
         made++;
         if (!holds) {
             failed++;
-            System.out.println("wrong: " + otherwise);
+            System.out.println("wrong: " + sentence + otherwise);
         }
     }
 

@@ -3,14 +3,16 @@ import java.util.List;
 /** Long mixed runs of calls, each answer and the digest behind it compared with the model. */
 public final class ModelTest {
     private static final int RUNS = 500;
-    // Each step is a call or some, and the digest: a run stays at about the 512 calls that are promised.
-    private static final int STEPS = 200;
+    private static final int MOST_CALLS = 512;
+    // Two refused calls, each between two digests, and the digest behind the step.
+    private static final int MOST_CALLS_OF_A_STEP = 7;
 
     private final Check check;
     private final TapePrinter printer = new TapePrinter();
     private final Model model = new Model();
     private final int flavour;
     private long seed;
+    private int calls;
 
     private ModelTest(Check check, int run) {
         this.check = check;
@@ -22,9 +24,9 @@ public final class ModelTest {
         Check check = new Check();
         for (int run = 0; run < RUNS; run++) {
             ModelTest test = new ModelTest(check, run);
-            for (int step = 0; step < STEPS; step++) {
+            for (int step = 0; test.calls <= MOST_CALLS - MOST_CALLS_OF_A_STEP; step++) {
                 test.call(test.anyCall());
-                check.same("run " + run + ", digest behind step " + step, test.printer.digest(), test.model.digest());
+                test.same("run " + run + ", digest behind step " + step, test.printer.digest(), test.model.digest());
             }
         }
         check.end();
@@ -49,6 +51,26 @@ public final class ModelTest {
         return code == 2 && flavour == 1 ? 5 : code;
     }
 
+    private void same(String what, long got, long due) {
+        calls++;
+        check.same(what, got, due);
+    }
+
+    private void outOfBounds(String what, Check.Call call) {
+        calls += 3;
+        check.outOfBounds(what, printer, call);
+    }
+
+    private void badState(String what, Check.Call call) {
+        calls += 3;
+        check.badState(what, printer, call);
+    }
+
+    private void mean() {
+        calls++;
+        check.same("mean", printer.mean(), (double) model.characters() / model.lines.size());
+    }
+
     private void call(int which) {
         switch (which) {
             case 0, 1, 2, 3 -> receive();
@@ -63,25 +85,25 @@ public final class ModelTest {
             case 17 -> codes();
             case 18 -> page();
             case 19 -> would();
-            case 20 -> check.same("wrong", printer.wrong(), model.wrong());
-            case 21 -> check.same("idle", printer.idle(), model.idle());
+            case 20 -> same("wrong", printer.wrong(), model.wrong());
+            case 21 -> same("idle", printer.idle(), model.idle());
             case 22 -> prints();
-            default -> check.same("mean", printer.mean(), (double) model.characters() / model.lines.size());
+            default -> mean();
         }
     }
 
     private void receive() {
         int code = anyCode();
-        check.same("receive", printer.receive(code), model.receive(code));
+        same("receive", printer.receive(code), model.receive(code));
     }
 
     private void punch() {
         int code = anyCode();
         if (model.tape.size() == 120) {
-            check.badState("punch", printer, () -> printer.punch(code));
+            badState("punch", () -> printer.punch(code));
         } else {
             model.tape.add(code);
-            check.same("punch", printer.punch(code), model.tape.size());
+            same("punch", printer.punch(code), model.tape.size());
         }
     }
 
@@ -89,19 +111,19 @@ public final class ModelTest {
         int character = 1 + next(54);
         List<Integer> typed = model.typed(character);
         if (model.tape.size() + typed.size() > 120) {
-            check.badState("type", printer, () -> printer.type(character));
+            badState("type", () -> printer.type(character));
         } else {
             model.tape.addAll(typed);
-            check.same("type", printer.type(character), typed.size());
+            same("type", printer.type(character), typed.size());
         }
     }
 
     private void rub() {
         int place = next(model.tape.size() + 2);
         if (place >= model.tape.size()) {
-            check.outOfBounds("rub", printer, () -> printer.rub(place));
+            outOfBounds("rub", () -> printer.rub(place));
         } else {
-            check.same("rub", printer.rub(place), model.tape.set(place, 31));
+            same("rub", printer.rub(place), model.tape.set(place, 31));
         }
     }
 
@@ -113,15 +135,15 @@ public final class ModelTest {
             model.reader++;
             came++;
         }
-        check.same("run", printer.run(many), came);
+        same("run", printer.run(many), came);
     }
 
     private void wind() {
         int place = next(model.tape.size() + 2);
         if (place > model.tape.size()) {
-            check.outOfBounds("wind", printer, () -> printer.wind(place));
+            outOfBounds("wind", () -> printer.wind(place));
         } else {
-            check.same("wind", printer.wind(place), model.reader);
+            same("wind", printer.wind(place), model.reader);
             model.reader = place;
         }
     }
@@ -130,19 +152,20 @@ public final class ModelTest {
         int place = next(16);
         int late = next(19) - 9;
         int garble = next(2) * next(32);
-        check.same("setLine", printer.setLine(place, late, garble), model.late[place]);
+        same("setLine", printer.setLine(place, late, garble), model.late[place]);
         model.late[place] = late;
         model.garble[place] = garble;
     }
 
     private void setPlay() {
         int play = next(10);
-        check.same("setPlay", printer.setPlay(play), model.play);
+        same("setPlay", printer.setPlay(play), model.play);
         model.play = play;
     }
 
     private void setUnshift() {
         boolean does = next(2) == 1;
+        calls++;
         check.same("setUnshift", printer.setUnshift(does), model.unshifts);
         model.unshifts = does;
     }
@@ -151,41 +174,41 @@ public final class ModelTest {
         int a = 1 + next(54);
         int b = 1 + next(54);
         int code = next(32);
-        check.same("code", printer.code(a), Model.code(a));
-        check.same("character", printer.character(code, true), Model.character(code, true));
-        check.same("character", printer.character(code, false), Model.character(code, false));
-        check.same("apart", printer.apart(a, b), Model.unitsApart(Model.code(a), Model.code(b)));
-        check.same("doubts", printer.doubts(code), model.doubts(code));
+        same("code", printer.code(a), Model.code(a));
+        same("character", printer.character(code, true), Model.character(code, true));
+        same("character", printer.character(code, false), Model.character(code, false));
+        same("apart", printer.apart(a, b), Model.unitsApart(Model.code(a), Model.code(b)));
+        same("doubts", printer.doubts(code), model.doubts(code));
     }
 
     private void page() {
         int line = next(model.lines.size() + 1);
         int place = next(41);
         if (line == model.lines.size()) {
-            check.outOfBounds("length", printer, () -> printer.length(line));
-            check.outOfBounds("page", printer, () -> printer.page(line, place));
+            outOfBounds("length", () -> printer.length(line));
+            outOfBounds("page", () -> printer.page(line, place));
             return;
         }
         List<Integer> due = model.lines.get(line);
-        check.same("length", printer.length(line), due.size());
+        same("length", printer.length(line), due.size());
         if (place < due.size()) {
-            check.same("page", printer.page(line, place), due.get(place));
+            same("page", printer.page(line, place), due.get(place));
         } else {
-            check.outOfBounds("page", printer, () -> printer.page(line, place));
+            outOfBounds("page", () -> printer.page(line, place));
         }
     }
 
     private void would() {
         int code = anyCode();
-        check.same("would", printer.would(code), model.read(code, model.came));
+        same("would", printer.would(code), model.read(code, model.came));
     }
 
     private void prints() {
         int place = next(model.tape.size() + 1);
         if (place == model.tape.size()) {
-            check.outOfBounds("prints", printer, () -> printer.prints(place));
+            outOfBounds("prints", () -> printer.prints(place));
         } else {
-            check.same("prints", printer.prints(place),
+            same("prints", printer.prints(place),
                     Model.character(model.tape.get(place), model.shifts()[place]));
         }
     }

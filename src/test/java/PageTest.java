@@ -71,29 +71,45 @@ public final class PageTest {
     }
 
     private static void theFirstLineGoes(Check check) {
-        TapePrinter printer = new TapePrinter();
-        for (int line = 0; line < 20; line++) {
-            Check.receiveMany(printer, line + 1, 1);
-            check.same("lines", printer.count(0), line + 1);
-            if (line < 19) {
-                printer.receive(2);
-            }
-        }
-        check.same("characters", printer.count(1), 210);
+        TapePrinter stair = stair();
+        check.same("lines", stair.count(0), 20);
+        check.same("characters", stair.count(1), 210);
+        // A printer of its own for each, as one object answers for 512 calls alone.
         for (int more = 1; more <= 45; more++) {
-            printer.receive(2);
-            check.same("a new line is empty", printer.length(19), 0);
-            printer.receive(3);
+            TapePrinter printer = stair();
+            for (int k = 1; k <= more; k++) {
+                printer.receive(2);
+                check.same("a new line is empty", printer.length(19), 0);
+                printer.receive(3);
+            }
             check.same("lines", printer.count(0), 20);
+            int sum = 0;
             for (int line = 0; line < 20; line++) {
                 int due = line + more < 20 ? line + more + 1 : 1;
+                sum += due;
                 check.same("length of line " + line, printer.length(line), due);
                 check.same("a character", printer.page(line, 0), line + more < 20 ? 1 : 2);
             }
+            check.same("none is lost", printer.count(8), 0);
+            check.same("characters", printer.count(1), sum);
+            check.same("mean", printer.mean(), sum / 20.0);
         }
-        check.same("characters", printer.count(1), 20);
-        check.same("none is lost", printer.count(8), 0);
-        check.same("mean", printer.mean(), 1.0);
+    }
+
+    /** 20 lines of 1 to 20 characters. */
+    private static TapePrinter stair() {
+        TapePrinter printer = new TapePrinter();
+        for (int k = 0; k < 20; k++) {
+            printer.punch(1);
+        }
+        for (int line = 0; line < 20; line++) {
+            if (line > 0) {
+                printer.receive(2);
+            }
+            printer.wind(0);
+            printer.run(line + 1);
+        }
+        return printer;
     }
 
     private static void badPlacesAreRefused(Check check) {
