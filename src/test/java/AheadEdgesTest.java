@@ -11,33 +11,33 @@ public final class AheadEdgesTest {
     }
 
     private static void wrong(Check check) {
-        check.edge("Promise 20, Returns how many codes of those from where the reader stands on",
+        check.sentence("Promise 20, Returns how many codes of those from where the reader stands on",
                 AheadEdgesTest::wrongFromTheReaderOn);
-        check.edge("Promise 20, would be read as another code", AheadEdgesTest::wrongIfAnotherIsRead);
-        check.edge("Promise 20, if the tape was run to its end now", AheadEdgesTest::wrongGoesRoundTheTable);
-        check.edge("Promise 20, (nothing is changed)", AheadEdgesTest::wrongChangesNothing);
+        check.sentence("Promise 20, would be read as another code", AheadEdgesTest::wrongIfAnotherIsRead);
+        check.sentence("Promise 20, if the tape was run to its end now", AheadEdgesTest::wrongGoesRoundTheTable);
+        check.sentence("Promise 20, (nothing is changed)", AheadEdgesTest::wrongChangesNothing);
     }
 
     private static void idle(Check check) {
-        check.edge("Promise 21, Returns how many shifts on the tape do nothing", AheadEdgesTest::idleIs0To120);
-        check.edge("Promise 21, till the next code of 31, 27, 2", AheadEdgesTest::idleTillTheNextCode);
-        check.edge("Promise 21, or, if a blank unshifts now, 4", AheadEdgesTest::idleTillABlankThatUnshifts);
-        check.edge("Promise 21, or the end of the tape", AheadEdgesTest::idleTillTheEnd);
-        check.edge("Promise 21, nothing is printed for which the shift matters",
+        check.sentence("Promise 21, Returns how many shifts on the tape do nothing", AheadEdgesTest::idleIs0To120);
+        check.sentence("Promise 21, till the next code of 31, 27, 2", AheadEdgesTest::idleTillTheNextCode);
+        check.sentence("Promise 21, or, if a blank unshifts now, 4", AheadEdgesTest::idleTillABlankThatUnshifts);
+        check.sentence("Promise 21, or the end of the tape", AheadEdgesTest::idleTillTheEnd);
+        check.sentence("Promise 21, nothing is printed for which the shift matters",
                 AheadEdgesTest::idleIfNothingMatters);
-        check.edge("Promise 21, or which shift to what is so already", AheadEdgesTest::idleIfItIsSoAlready);
-        check.edge("Promise 21, for a tape that is run from its beginning on, with the shift letters",
+        check.sentence("Promise 21, or which shift to what is so already", AheadEdgesTest::idleIfItIsSoAlready);
+        check.sentence("Promise 21, for a tape that is run from its beginning on, with the shift letters",
                 AheadEdgesTest::idleFromTheBeginning);
-        check.edge("Promise 21, over a line that is good", AheadEdgesTest::idleIsOfAGoodLine);
+        check.sentence("Promise 21, over a line that is good", AheadEdgesTest::idleIsOfAGoodLine);
     }
 
     private static void prints(Check check) {
-        check.edge("Promise 22, `place`: a place of the tape", AheadEdgesTest::printsAtTheFirstAndTheLast);
-        check.edge("Promise 22, if it is run from its beginning on, with the shift letters",
+        check.sentence("Promise 22, `place`: a place of the tape", AheadEdgesTest::printsAtTheFirstAndTheLast);
+        check.sentence("Promise 22, if it is run from its beginning on, with the shift letters",
                 AheadEdgesTest::printsFromTheBeginning);
-        check.edge("Promise 22, over a line that is good", AheadEdgesTest::printsIsOfAGoodLine);
-        check.edge("Promise 22, 0 for none", AheadEdgesTest::printsNone);
-        check.edge("Promise 22, Throws `IndexOutOfBoundsException` if there is no such place",
+        check.sentence("Promise 22, over a line that is good", AheadEdgesTest::printsIsOfAGoodLine);
+        check.sentence("Promise 22, 0 for none", AheadEdgesTest::printsNone);
+        check.sentence("Promise 22, Throws `IndexOutOfBoundsException` if there is no such place",
                 AheadEdgesTest::printsRefuses);
     }
 

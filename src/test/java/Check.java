@@ -7,25 +7,25 @@ final class Check {
     }
 
     /** The test of one sentence. */
-    interface Edge {
+    interface Sentence {
         void hold(Check check);
     }
 
     private int made;
     private int failed;
-    private String sentence = "";
+    private String quoted = "";
 
-    /** A sentence of the document that names an edge, and its own test. */
-    void edge(String words, Edge edge) {
+    /** A sentence of the document, or a part of one, and its own test. */
+    void sentence(String words, Sentence sentence) {
         int before = made;
-        sentence = words + ": ";
+        quoted = words + ": ";
         try {
-            edge.hold(this);
+            sentence.hold(this);
         } catch (RuntimeException e) {
             tell(false, "an unasked " + e);
         }
         tell(made > before, "nothing was checked");
-        sentence = "";
+        quoted = "";
     }
 
     void same(String what, long got, long due) {
@@ -75,7 +75,7 @@ final class Check {
         made++;
         if (!holds) {
             failed++;
-            System.out.println("wrong: " + sentence + otherwise);
+            System.out.println("wrong: " + quoted + otherwise);
         }
     }
 

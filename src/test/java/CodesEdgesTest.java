@@ -5,22 +5,22 @@ public final class CodesEdgesTest {
 
     public static void main(String[] args) {
         Check check = new Check();
-        check.edge("Promise 2, Returns its code.", CodesEdgesTest::codeOfTheLeastAndTheGreatest);
-        check.edge("Promise 2, Throws `IndexOutOfBoundsException` if character is not 1 to 54",
+        check.sentence("Promise 2, Returns its code.", CodesEdgesTest::codeOfTheLeastAndTheGreatest);
+        check.sentence("Promise 2, Throws `IndexOutOfBoundsException` if character is not 1 to 54",
                 CodesEdgesTest::codeRefuses);
-        check.edge("Promise 3, Returns the character that it prints; 0 for none.",
+        check.sentence("Promise 3, Returns the character that it prints; 0 for none.",
                 CodesEdgesTest::characterOfTheLeastAndTheGreatest);
-        check.edge("Promise 3, `isFigures`: whether the shift is figures", CodesEdgesTest::characterBySomeShift);
-        check.edge("Promise 3, Throws `IndexOutOfBoundsException` if code is not 0 to 31",
+        check.sentence("Promise 3, `isFigures`: whether the shift is figures", CodesEdgesTest::characterBySomeShift);
+        check.sentence("Promise 3, Throws `IndexOutOfBoundsException` if code is not 0 to 31",
                 CodesEdgesTest::characterRefuses);
-        check.edge("Promise 4, Returns in how many units their codes differ.", CodesEdgesTest::apartIs0To5);
-        check.edge("Promise 4, Throws `IndexOutOfBoundsException` if a or b is not 1 to 54",
+        check.sentence("Promise 4, Returns in how many units their codes differ.", CodesEdgesTest::apartIs0To5);
+        check.sentence("Promise 4, Throws `IndexOutOfBoundsException` if a or b is not 1 to 54",
                 CodesEdgesTest::apartRefuses);
-        check.edge("Promise 5, Returns how many other codes differ from it in one unit, and print another character",
+        check.sentence("Promise 5, Returns how many other codes differ from it in one unit, and print another character",
                 CodesEdgesTest::doubtsAre4Or5);
-        check.edge("Promise 5, by the shift that is now", CodesEdgesTest::doubtsByTheShiftThatIsNow);
-        check.edge("Promise 5, (0 counts as one)", CodesEdgesTest::noneCountsAsACharacter);
-        check.edge("Promise 5, Throws `IndexOutOfBoundsException` if code is not 0 to 31",
+        check.sentence("Promise 5, by the shift that is now", CodesEdgesTest::doubtsByTheShiftThatIsNow);
+        check.sentence("Promise 5, (0 counts as one)", CodesEdgesTest::noneCountsAsACharacter);
+        check.sentence("Promise 5, Throws `IndexOutOfBoundsException` if code is not 0 to 31",
                 CodesEdgesTest::doubtsRefuses);
         check.end();
     }

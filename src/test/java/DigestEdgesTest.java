@@ -10,15 +10,15 @@ public final class DigestEdgesTest {
 
     public static void main(String[] args) {
         Check check = new Check();
-        check.edge("Promise 24, A number d starts with 1373", DigestEdgesTest::startsWith1373);
-        check.edge("Promise 24, which wraps around as a 64-bit integer", DigestEdgesTest::wrapsAround);
-        check.edge("Promise 24, what count() tells, in its order", DigestEdgesTest::countsFromTheFirstToTheLast);
-        check.edge("Promise 24, for each place of the table by how much its start is late, and its garbled units",
+        check.sentence("Promise 24, A number d starts with 1373", DigestEdgesTest::startsWith1373);
+        check.sentence("Promise 24, which wraps around as a 64-bit integer", DigestEdgesTest::wrapsAround);
+        check.sentence("Promise 24, what count() tells, in its order", DigestEdgesTest::countsFromTheFirstToTheLast);
+        check.sentence("Promise 24, for each place of the table by how much its start is late, and its garbled units",
                 DigestEdgesTest::placesFromTheFirstToTheLast);
-        check.edge("Promise 24, for each line how many characters it has, and these",
+        check.sentence("Promise 24, for each line how many characters it has, and these",
                 DigestEdgesTest::linesFromAnEmptyOneTo20FullOnes);
-        check.edge("Promise 24, the codes of the tape", DigestEdgesTest::tapesFromNoCodeTo120);
-        check.edge("Promise 24, Returns d.", DigestEdgesTest::changesNothing);
+        check.sentence("Promise 24, the codes of the tape", DigestEdgesTest::tapesFromNoCodeTo120);
+        check.sentence("Promise 24, Returns d.", DigestEdgesTest::changesNothing);
         check.end();
     }
 

@@ -2,38 +2,39 @@ import java.lang.reflect.Constructor;
 import java.lang.reflect.Field;
 import java.lang.reflect.Method;
 import java.lang.reflect.Modifier;
+import java.lang.reflect.Parameter;
 import java.util.Arrays;
 import java.util.Set;
 import java.util.TreeSet;
 
 /** The public face, as the document writes it, and no other member of the class that can be reached. */
 public final class FaceTest {
-    private static final String BOUNDS = " throws IndexOutOfBoundsException";
+    private static final String BOUNDS = "IndexOutOfBoundsException";
     private static final String ARGUMENT = "IllegalArgumentException";
     private static final String STATE = "IllegalStateException";
 
     private static final String[] FACE = {
-        "int code(int)" + BOUNDS,
-        "int character(int, boolean)" + BOUNDS,
-        "int apart(int, int)" + BOUNDS,
-        "int doubts(int)" + BOUNDS,
-        "int setLine(int, int, int)" + BOUNDS + ", " + ARGUMENT,
-        "int setPlay(int) throws " + ARGUMENT,
-        "boolean setUnshift(boolean)",
-        "int receive(int)" + BOUNDS,
-        "int punch(int)" + BOUNDS + ", " + STATE,
-        "int type(int)" + BOUNDS + ", " + STATE,
-        "int rub(int)" + BOUNDS,
-        "int run(int) throws " + ARGUMENT,
-        "int wind(int)" + BOUNDS,
-        "int tape(int)" + BOUNDS,
-        "int page(int, int)" + BOUNDS,
-        "int length(int)" + BOUNDS,
-        "int count(int)" + BOUNDS,
-        "int would(int)" + BOUNDS,
+        "int code(int character) throws " + BOUNDS,
+        "int character(int code, boolean isFigures) throws " + BOUNDS,
+        "int apart(int a, int b) throws " + BOUNDS,
+        "int doubts(int code) throws " + BOUNDS,
+        "int setLine(int place, int late, int garble) throws " + BOUNDS + ", " + ARGUMENT,
+        "int setPlay(int play) throws " + ARGUMENT,
+        "boolean setUnshift(boolean does)",
+        "int receive(int code) throws " + BOUNDS,
+        "int punch(int code) throws " + BOUNDS + ", " + STATE,
+        "int type(int character) throws " + BOUNDS + ", " + STATE,
+        "int rub(int place) throws " + BOUNDS,
+        "int run(int many) throws " + ARGUMENT,
+        "int wind(int place) throws " + BOUNDS,
+        "int tape(int place) throws " + BOUNDS,
+        "int page(int line, int place) throws " + BOUNDS,
+        "int length(int line) throws " + BOUNDS,
+        "int count(int what) throws " + BOUNDS,
+        "int would(int code) throws " + BOUNDS,
         "int wrong()",
         "int idle()",
-        "int prints(int)" + BOUNDS,
+        "int prints(int place) throws " + BOUNDS,
         "double mean()",
         "long digest()",
     };
@@ -50,6 +51,10 @@ public final class FaceTest {
             check.tell(Modifier.isPrivate(field.getModifiers()), "a field is not private: " + field);
             check.tell(!Modifier.isStatic(field.getModifiers()) || Modifier.isFinal(field.getModifiers()),
                     "a static field is not final: " + field);
+        }
+        for (Class<?> inside : face.getDeclaredClasses()) {
+            check.tell(Modifier.isStatic(inside.getModifiers()) && !Modifier.isPublic(inside.getModifiers())
+                    && !Modifier.isProtected(inside.getModifiers()), "a class inside can be reached: " + inside);
         }
         check.end();
     }
@@ -81,17 +86,20 @@ public final class FaceTest {
         check.same("exceptions of the constructor", all[0].getExceptionTypes().length, 0);
     }
 
+    /** As the document writes it; the names of parameters are there if javac was told to keep them. */
     private static String written(Method method) {
-        String thrown = names(method.getExceptionTypes());
-        return method.getReturnType().getSimpleName() + " " + method.getName()
-                + "(" + names(method.getParameterTypes()) + ")"
-                + (thrown.isEmpty() ? "" : " throws " + thrown);
-    }
-
-    private static String names(Class<?>[] types) {
-        StringBuilder text = new StringBuilder();
-        for (Class<?> type : types) {
-            text.append(text.length() == 0 ? "" : ", ").append(type.getSimpleName());
+        StringBuilder text = new StringBuilder(method.getReturnType().getSimpleName());
+        text.append(' ').append(method.getName()).append('(');
+        String between = "";
+        for (Parameter parameter : method.getParameters()) {
+            text.append(between).append(parameter.getType().getSimpleName()).append(' ').append(parameter.getName());
+            between = ", ";
+        }
+        text.append(')');
+        between = " throws ";
+        for (Class<?> thrown : method.getExceptionTypes()) {
+            text.append(between).append(thrown.getSimpleName());
+            between = ", ";
         }
         return text.toString();
     }

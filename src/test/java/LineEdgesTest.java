@@ -11,36 +11,37 @@ public final class LineEdgesTest {
     }
 
     private static void setLine(Check check) {
-        check.edge("Promise 6, `place`: a place of the table, 0 to 15", LineEdgesTest::placesAre0To15);
-        check.edge("Promise 6, `late`: by how much a start there is late, less than 0 for early",
+        check.sentence("Promise 6, `place`: a place of the table, 0 to 15", LineEdgesTest::placesAre0To15);
+        check.sentence("Promise 6, `late`: by how much a start there is late, less than 0 for early",
                 LineEdgesTest::lateAndEarly);
-        check.edge("Promise 6, `garble`: the units that are garbled there", LineEdgesTest::garbledAre0To31);
-        check.edge("Promise 6, Returns by how much it was late before.", LineEdgesTest::lateBefore);
-        check.edge("Promise 6, Throws `IndexOutOfBoundsException` if place is not 0 to 15",
+        check.sentence("Promise 6, `garble`: the units that are garbled there", LineEdgesTest::garbledAre0To31);
+        check.sentence("Promise 6, Returns by how much it was late before.", LineEdgesTest::lateBefore);
+        check.sentence("Promise 6, Throws `IndexOutOfBoundsException` if place is not 0 to 15",
                 LineEdgesTest::setLineRefusesPlaces);
-        check.edge("Promise 6, Throws `IllegalArgumentException` if late is not -9 to 9",
+        check.sentence("Promise 6, Throws `IllegalArgumentException` if late is not -9 to 9",
                 LineEdgesTest::setLineRefusesLate);
-        check.edge("Promise 6, or garble is not 0 to 31", LineEdgesTest::setLineRefusesGarble);
+        check.sentence("Promise 6, or garble is not 0 to 31", LineEdgesTest::setLineRefusesGarble);
     }
 
     private static void settings(Check check) {
-        check.edge("Promise 7, `play`: the play from now on", LineEdgesTest::playFromNowOn);
-        check.edge("Promise 7, Returns the play before.", LineEdgesTest::playBefore);
-        check.edge("Promise 7, Throws `IllegalArgumentException` if play is not 0 to 9",
+        check.sentence("Promise 7, `play`: the play from now on", LineEdgesTest::playFromNowOn);
+        check.sentence("Promise 7, Returns the play before.", LineEdgesTest::playBefore);
+        check.sentence("Promise 7, Throws `IllegalArgumentException` if play is not 0 to 9",
                 LineEdgesTest::setPlayRefuses);
-        check.edge("Promise 8, `does`: whether a blank unshifts from now on", LineEdgesTest::unshiftFromNowOn);
-        check.edge("Promise 8, Returns whether it did before.", LineEdgesTest::unshiftBefore);
+        check.sentence("Promise 8, `does`: whether a blank unshifts from now on", LineEdgesTest::unshiftFromNowOn);
+        check.sentence("Promise 8, Returns whether it did before.", LineEdgesTest::unshiftBefore);
     }
 
     private static void codesThatCome(Check check) {
-        check.edge("Promise 9, A code comes over the line, and is printed as it is read.",
+        check.sentence("Promise 9, A code comes over the line, and is printed as it is read.",
                 LineEdgesTest::printedAsItIsRead);
-        check.edge("Promise 9, Returns the code that is read.", LineEdgesTest::theLeastAndTheGreatestAreRead);
-        check.edge("Promise 9, Throws `IndexOutOfBoundsException` if code is not 0 to 31",
+        check.sentence("Promise 9, Returns the code that is read.", LineEdgesTest::theLeastAndTheGreatestAreRead);
+        check.sentence("Promise 9, Throws `IndexOutOfBoundsException` if code is not 0 to 31",
                 LineEdgesTest::receiveRefuses);
-        check.edge("Promise 19, Returns the code that would be read, if it came now", LineEdgesTest::wouldAsReceive);
-        check.edge("Promise 19, (nothing is changed)", LineEdgesTest::wouldChangesNothing);
-        check.edge("Promise 19, Throws `IndexOutOfBoundsException` if code is not 0 to 31",
+        check.sentence("Promise 19, Returns the code that would be read, if it came now",
+                LineEdgesTest::wouldAsReceive);
+        check.sentence("Promise 19, (nothing is changed)", LineEdgesTest::wouldChangesNothing);
+        check.sentence("Promise 19, Throws `IndexOutOfBoundsException` if code is not 0 to 31",
                 LineEdgesTest::wouldRefuses);
     }
 

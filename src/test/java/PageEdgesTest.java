@@ -5,35 +5,35 @@ public final class PageEdgesTest {
 
     public static void main(String[] args) {
         Check check = new Check();
-        check.edge("Promise 1, Creates a printer with an empty page", PageEdgesTest::anEmptyPage);
-        check.edge("Promise 1, and an empty tape", PageEdgesTest::anEmptyTape);
-        check.edge("Promise 16, `line`: a line, from 0", PageEdgesTest::linesFrom0ToTheLast);
-        check.edge("Promise 16, `place`: a place in it, from 0", PageEdgesTest::placesFrom0ToTheLast);
-        check.edge("Promise 16, Throws `IndexOutOfBoundsException` if there is no such line",
+        check.sentence("Promise 1, Creates a printer with an empty page", PageEdgesTest::anEmptyPage);
+        check.sentence("Promise 1, and an empty tape", PageEdgesTest::anEmptyTape);
+        check.sentence("Promise 16, `line`: a line, from 0", PageEdgesTest::linesFrom0ToTheLast);
+        check.sentence("Promise 16, `place`: a place in it, from 0", PageEdgesTest::placesFrom0ToTheLast);
+        check.sentence("Promise 16, Throws `IndexOutOfBoundsException` if there is no such line",
                 PageEdgesTest::pageRefusesLines);
-        check.edge("Promise 16, or place", PageEdgesTest::pageRefusesPlaces);
-        check.edge("Promise 17, Returns how many characters it has.", PageEdgesTest::lengthIs0To40);
-        check.edge("Promise 17, Throws `IndexOutOfBoundsException` if there is no such line",
+        check.sentence("Promise 16, or place", PageEdgesTest::pageRefusesPlaces);
+        check.sentence("Promise 17, Returns how many characters it has.", PageEdgesTest::lengthIs0To40);
+        check.sentence("Promise 17, Throws `IndexOutOfBoundsException` if there is no such line",
                 PageEdgesTest::lengthRefuses);
         counts(check);
-        check.edge("Promise 23, Returns the mean number of characters of a line.", PageEdgesTest::meanIs0To40);
+        check.sentence("Promise 23, Returns the mean number of characters of a line.", PageEdgesTest::meanIs0To40);
         check.end();
     }
 
     private static void counts(Check check) {
-        check.edge("Promise 18, 0 lines", PageEdgesTest::countsLines);
-        check.edge("Promise 18, 1 characters of the page", PageEdgesTest::countsCharacters);
-        check.edge("Promise 18, 2 1 if the shift is figures, else 0", PageEdgesTest::countsTheShift);
-        check.edge("Promise 18, 3 the play", PageEdgesTest::countsThePlay);
-        check.edge("Promise 18, 4 codes of the tape", PageEdgesTest::countsCodesOfTheTape);
-        check.edge("Promise 18, 5 where the reader stands", PageEdgesTest::countsTheReader);
-        check.edge("Promise 18, 6 codes that came in all", PageEdgesTest::countsCodesThatCame);
-        check.edge("Promise 18, 7 those of them that were read as another code", PageEdgesTest::countsOtherCodes);
-        check.edge("Promise 18, 8 characters that were lost in all (for which a line had no room)",
+        check.sentence("Promise 18, 0 lines", PageEdgesTest::countsLines);
+        check.sentence("Promise 18, 1 characters of the page", PageEdgesTest::countsCharacters);
+        check.sentence("Promise 18, 2 1 if the shift is figures, else 0", PageEdgesTest::countsTheShift);
+        check.sentence("Promise 18, 3 the play", PageEdgesTest::countsThePlay);
+        check.sentence("Promise 18, 4 codes of the tape", PageEdgesTest::countsCodesOfTheTape);
+        check.sentence("Promise 18, 5 where the reader stands", PageEdgesTest::countsTheReader);
+        check.sentence("Promise 18, 6 codes that came in all", PageEdgesTest::countsCodesThatCame);
+        check.sentence("Promise 18, 7 those of them that were read as another code", PageEdgesTest::countsOtherCodes);
+        check.sentence("Promise 18, 8 characters that were lost in all (for which a line had no room)",
                 PageEdgesTest::countsLostCharacters);
-        check.edge("Promise 18, 9 1 if a blank unshifts, else 0", PageEdgesTest::countsTheUnshift);
-        check.edge("Promise 18, 10 times that the bell rang in all", PageEdgesTest::countsTheBell);
-        check.edge("Promise 18, Throws `IndexOutOfBoundsException` if what is not 0 to 10",
+        check.sentence("Promise 18, 9 1 if a blank unshifts, else 0", PageEdgesTest::countsTheUnshift);
+        check.sentence("Promise 18, 10 times that the bell rang in all", PageEdgesTest::countsTheBell);
+        check.sentence("Promise 18, Throws `IndexOutOfBoundsException` if what is not 0 to 10",
                 PageEdgesTest::countRefuses);
     }
 

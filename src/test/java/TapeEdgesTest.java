@@ -16,55 +16,56 @@ public final class TapeEdgesTest {
     }
 
     private static void punch(Check check) {
-        check.edge("Promise 10, Punches a code at the end of the tape.", TapeEdgesTest::punchesAtTheEnd);
-        check.edge("Promise 10, Returns how many codes the tape has then.", TapeEdgesTest::punchTellsHowMany);
-        check.edge("Promise 10, Throws `IndexOutOfBoundsException` if code is not 0 to 31",
+        check.sentence("Promise 10, Punches a code at the end of the tape.", TapeEdgesTest::punchesAtTheEnd);
+        check.sentence("Promise 10, Returns how many codes the tape has then.", TapeEdgesTest::punchTellsHowMany);
+        check.sentence("Promise 10, Throws `IndexOutOfBoundsException` if code is not 0 to 31",
                 TapeEdgesTest::punchRefusesCodes);
-        check.edge("Promise 10, Throws `IllegalStateException` if it has 120", TapeEdgesTest::punchRefusesWhenFull);
+        check.sentence("Promise 10, Throws `IllegalStateException` if it has 120", TapeEdgesTest::punchRefusesWhenFull);
     }
 
     private static void type(Check check) {
-        check.edge("Promise 11, and ahead of it, if it is a letter or a figure, the shift that it needs",
+        check.sentence("Promise 11, and ahead of it, if it is a letter or a figure, the shift that it needs",
                 TapeEdgesTest::typeShiftsForLettersAndFigures);
-        check.edge("Promise 11, if it has another one there", TapeEdgesTest::typeShiftsIfAnotherIsThere);
-        check.edge("Promise 11, as the tape is run from its beginning on", TapeEdgesTest::typeLooksAtTheWholeTape);
-        check.edge("Promise 11, with the shift letters", TapeEdgesTest::typeBeginsWithLetters);
-        check.edge("Promise 11, over a line that is good", TapeEdgesTest::typeIsOfAGoodLine);
-        check.edge("Promise 11, and blanks as they are now", TapeEdgesTest::typeTakesBlanksAsNow);
-        check.edge("Promise 11, Returns how many codes are punched.", TapeEdgesTest::typeTellsHowMany);
-        check.edge("Promise 11, Throws `IndexOutOfBoundsException` if character is not 1 to 54",
+        check.sentence("Promise 11, if it has another one there", TapeEdgesTest::typeShiftsIfAnotherIsThere);
+        check.sentence("Promise 11, as the tape is run from its beginning on", TapeEdgesTest::typeLooksAtTheWholeTape);
+        check.sentence("Promise 11, with the shift letters", TapeEdgesTest::typeBeginsWithLetters);
+        check.sentence("Promise 11, over a line that is good", TapeEdgesTest::typeIsOfAGoodLine);
+        check.sentence("Promise 11, and blanks as they are now", TapeEdgesTest::typeTakesBlanksAsNow);
+        check.sentence("Promise 11, Returns how many codes are punched.", TapeEdgesTest::typeTellsHowMany);
+        check.sentence("Promise 11, Throws `IndexOutOfBoundsException` if character is not 1 to 54",
                 TapeEdgesTest::typeRefusesCharacters);
-        check.edge("Promise 11, Throws `IllegalStateException` if the tape has no room for them",
+        check.sentence("Promise 11, Throws `IllegalStateException` if the tape has no room for them",
                 TapeEdgesTest::typeRefusesWithoutRoom);
     }
 
     private static void rub(Check check) {
-        check.edge("Promise 12, Rubs a code of the tape out: it is 31 then.", TapeEdgesTest::rubsTheFirstAndTheLast);
-        check.edge("Promise 12, Returns the code before.", TapeEdgesTest::rubTellsTheCodeBefore);
-        check.edge("Promise 12, Throws `IndexOutOfBoundsException` if there is no such place",
+        check.sentence("Promise 12, Rubs a code of the tape out: it is 31 then.",
+                TapeEdgesTest::rubsTheFirstAndTheLast);
+        check.sentence("Promise 12, Returns the code before.", TapeEdgesTest::rubTellsTheCodeBefore);
+        check.sentence("Promise 12, Throws `IndexOutOfBoundsException` if there is no such place",
                 TapeEdgesTest::rubRefuses);
     }
 
     private static void run(Check check) {
-        check.edge("Promise 13, from where the reader stands on", TapeEdgesTest::runsFromTheReaderOn);
-        check.edge("Promise 13, codes of it come over the line, one by one", TapeEdgesTest::runsOverTheLine);
-        check.edge("Promise 13, Returns how many come", TapeEdgesTest::runTellsHowMany);
-        check.edge("Promise 13, fewer, if the tape ends", TapeEdgesTest::fewerIfTheTapeEnds);
-        check.edge("Promise 13, Throws `IllegalArgumentException` if many is not 1 to 120",
+        check.sentence("Promise 13, from where the reader stands on", TapeEdgesTest::runsFromTheReaderOn);
+        check.sentence("Promise 13, codes of it come over the line, one by one", TapeEdgesTest::runsOverTheLine);
+        check.sentence("Promise 13, Returns how many come", TapeEdgesTest::runTellsHowMany);
+        check.sentence("Promise 13, fewer, if the tape ends", TapeEdgesTest::fewerIfTheTapeEnds);
+        check.sentence("Promise 13, Throws `IllegalArgumentException` if many is not 1 to 120",
                 TapeEdgesTest::runRefuses);
     }
 
     private static void wind(Check check) {
-        check.edge("Promise 14, `place`: the place, from 0, up to how many codes the tape has",
+        check.sentence("Promise 14, `place`: the place, from 0, up to how many codes the tape has",
                 TapeEdgesTest::windsFrom0ToTheEnd);
-        check.edge("Promise 14, Returns the place before.", TapeEdgesTest::windTellsThePlaceBefore);
-        check.edge("Promise 14, Throws `IndexOutOfBoundsException` if there is no such place",
+        check.sentence("Promise 14, Returns the place before.", TapeEdgesTest::windTellsThePlaceBefore);
+        check.sentence("Promise 14, Throws `IndexOutOfBoundsException` if there is no such place",
                 TapeEdgesTest::windRefuses);
     }
 
     private static void tape(Check check) {
-        check.edge("Promise 15, `place`: a place of the tape, from 0", TapeEdgesTest::tapeFrom0ToTheLast);
-        check.edge("Promise 15, Throws `IndexOutOfBoundsException` if there is no such place",
+        check.sentence("Promise 15, `place`: a place of the tape, from 0", TapeEdgesTest::tapeFrom0ToTheLast);
+        check.sentence("Promise 15, Throws `IndexOutOfBoundsException` if there is no such place",
                 TapeEdgesTest::tapeRefuses);
     }
 

@@ -4,83 +4,84 @@ public final class TermsEdgesTest {
 
     public static void main(String[] args) {
         Check check = new Check();
-        check.edge("An object is used for at most 512 calls after it has been made",
+        check.sentence("An object is used for at most 512 calls after it has been made",
                 TermsEdgesTest::theLastCallIsAnswered);
         characters(check);
         printer(check);
         codesThatCome(check);
         selector(check);
         lineAndTape(check);
-        check.edge("A method that throws an exception changes nothing.",
+        check.sentence("A method that throws an exception changes nothing.",
                 TermsEdgesTest::refusedCallsChangeNothing);
-        check.edge("If several exceptions apply, the one that is named first is thrown.",
+        check.sentence("If several exceptions apply, the one that is named first is thrown.",
                 TermsEdgesTest::theFirstNamedIsThrown);
         check.end();
     }
 
     private static void characters(Check check) {
-        check.edge("All numbers are whole.", TermsEdgesTest::theLeastAndTheGreatestIntAreRefused);
-        check.edge("A code is a number of 0 to 31", TermsEdgesTest::codesAre0To31);
-        check.edge("its bits, the least one first, are the five units", TermsEdgesTest::bitsAreUnits);
-        check.edge("Letters are 1 to 26, figures are 27 to 52", TermsEdgesTest::lettersAndFigures);
-        check.edge("53 is a blank, 54 a new line.", TermsEdgesTest::blankAndNewLine);
-        check.edge("31 shifts to letters, 27 to figures, 4 is a blank, 2 a new line, 8 rings the bell, 0 is nothing.",
+        check.sentence("All numbers are whole.", TermsEdgesTest::theLeastAndTheGreatestIntAreRefused);
+        check.sentence("A code is a number of 0 to 31", TermsEdgesTest::codesAre0To31);
+        check.sentence("its bits, the least one first, are the five units", TermsEdgesTest::bitsAreUnits);
+        check.sentence("Letters are 1 to 26, figures are 27 to 52", TermsEdgesTest::lettersAndFigures);
+        check.sentence("53 is a blank, 54 a new line.", TermsEdgesTest::blankAndNewLine);
+        check.sentence("31 shifts to letters, 27 to figures, 4 is a blank, 2 a new line, 8 rings the bell, 0 is nothing.",
                 TermsEdgesTest::codesOfTheirOwn);
-        check.edge("All other ones, the smallest first, are those of the letters 1 to 26, in their order",
+        check.sentence("All other ones, the smallest first, are those of the letters 1 to 26, in their order",
                 TermsEdgesTest::codesOfTheLetters);
-        check.edge("and of the figures 27 to 52, in their order as well", TermsEdgesTest::codesOfTheFigures);
-        check.edge("which one it is depends on the shift", TermsEdgesTest::theShiftTellsWhich);
-        check.edge("So each letter has the code of the figure that is 26 greater.",
+        check.sentence("and of the figures 27 to 52, in their order as well", TermsEdgesTest::codesOfTheFigures);
+        check.sentence("which one it is depends on the shift", TermsEdgesTest::theShiftTellsWhich);
+        check.sentence("So each letter has the code of the figure that is 26 greater.",
                 TermsEdgesTest::lettersHaveTheCodesOfFigures);
     }
 
     private static void printer(Check check) {
-        check.edge("Its shift is letters, at first.", TermsEdgesTest::lettersAtFirst);
-        check.edge("The page has at most 20 lines", TermsEdgesTest::atMost20Lines);
-        check.edge("each of at most 40 characters", TermsEdgesTest::atMost40Characters);
-        check.edge("printing goes on in the last line", TermsEdgesTest::printsInTheLastLine);
-        check.edge("(there is an empty one, at first)", TermsEdgesTest::anEmptyLineAtFirst);
-        check.edge("a character for which a line has no room any more is lost",
+        check.sentence("Its shift is letters, at first.", TermsEdgesTest::lettersAtFirst);
+        check.sentence("The page has at most 20 lines", TermsEdgesTest::atMost20Lines);
+        check.sentence("each of at most 40 characters", TermsEdgesTest::atMost40Characters);
+        check.sentence("printing goes on in the last line", TermsEdgesTest::printsInTheLastLine);
+        check.sentence("(there is an empty one, at first)", TermsEdgesTest::anEmptyLineAtFirst);
+        check.sentence("a character for which a line has no room any more is lost",
                 TermsEdgesTest::withoutRoomItIsLost);
-        check.edge("a new line behind the last one of 20 has the first one go", TermsEdgesTest::theFirstLineGoes);
-        check.edge("and all others move up", TermsEdgesTest::theOthersMoveUp);
+        check.sentence("a new line behind the last one of 20 has the first one go", TermsEdgesTest::theFirstLineGoes);
+        check.sentence("and all others move up", TermsEdgesTest::theOthersMoveUp);
     }
 
     private static void codesThatCome(Check check) {
-        check.edge("0 does nothing", TermsEdgesTest::zeroDoesNothing);
-        check.edge("31 and 27 shift", TermsEdgesTest::shiftsShift);
-        check.edge("4 prints a blank (53)", TermsEdgesTest::fourPrintsABlank);
-        check.edge("if it unshifts (it does not, at first), shifts to letters", TermsEdgesTest::blanksUnshift);
-        check.edge("also if the blank is lost", TermsEdgesTest::lostBlanksUnshift);
-        check.edge("2 begins a new line (54)", TermsEdgesTest::twoBeginsALine);
-        check.edge("and shifts to letters", TermsEdgesTest::newLinesShiftToLetters);
-        check.edge("8 rings the bell, and prints nothing", TermsEdgesTest::eightRings);
-        check.edge("any other one prints its letter or figure, by the shift", TermsEdgesTest::theOthersPrint);
+        check.sentence("0 does nothing", TermsEdgesTest::zeroDoesNothing);
+        check.sentence("31 and 27 shift", TermsEdgesTest::shiftsShift);
+        check.sentence("4 prints a blank (53)", TermsEdgesTest::fourPrintsABlank);
+        check.sentence("if it unshifts (it does not, at first), shifts to letters", TermsEdgesTest::blanksUnshift);
+        check.sentence("also if the blank is lost", TermsEdgesTest::lostBlanksUnshift);
+        check.sentence("2 begins a new line (54)", TermsEdgesTest::twoBeginsALine);
+        check.sentence("and shifts to letters", TermsEdgesTest::newLinesShiftToLetters);
+        check.sentence("8 rings the bell, and prints nothing", TermsEdgesTest::eightRings);
+        check.sentence("any other one prints its letter or figure, by the shift", TermsEdgesTest::theOthersPrint);
     }
 
     private static void selector(Check check) {
-        check.edge("Five fingers, one for each unit", TermsEdgesTest::fiveFingers);
-        check.edge("it has a play of 0 (at first) to 9", TermsEdgesTest::playIs0To9);
-        check.edge("If the start of a character is late by more than the play, each finger reads the unit behind its own one",
+        check.sentence("Five fingers, one for each unit", TermsEdgesTest::fiveFingers);
+        check.sentence("it has a play of 0 (at first) to 9", TermsEdgesTest::playIs0To9);
+        check.sentence("If the start of a character is late by more than the play, each finger reads the unit behind its own one",
                 TermsEdgesTest::lateByMoreThanThePlay);
-        check.edge("(the last one reads none)", TermsEdgesTest::theLastReadsNone);
-        check.edge("if it is early by more than the play, that ahead of it", TermsEdgesTest::earlyByMoreThanThePlay);
-        check.edge("(the first one reads current, the stop of the character before)",
+        check.sentence("(the last one reads none)", TermsEdgesTest::theLastReadsNone);
+        check.sentence("if it is early by more than the play, that ahead of it",
+                TermsEdgesTest::earlyByMoreThanThePlay);
+        check.sentence("(the first one reads current, the stop of the character before)",
                 TermsEdgesTest::theFirstReadsCurrent);
-        check.edge("What is read is another code, if it differs in some unit.", TermsEdgesTest::anotherIfItDiffers);
+        check.sentence("What is read is another code, if it differs in some unit.", TermsEdgesTest::anotherIfItDiffers);
     }
 
     private static void lineAndTape(Check check) {
-        check.edge("A table tells for each of 16 characters that come (counted from 0 on, by the remainder of 16)",
+        check.sentence("A table tells for each of 16 characters that come (counted from 0 on, by the remainder of 16)",
                 TermsEdgesTest::theTableGoesRound);
-        check.edge("by how much its start is early (less than 0) or late, -9 to 9", TermsEdgesTest::lateIsUpTo9);
-        check.edge("(0, at first), and which of its units are garbled", TermsEdgesTest::inTimeAtFirst);
-        check.edge("these are turned round, ahead of the selector", TermsEdgesTest::garbledAheadOfTheSelector);
-        check.edge("ahead of the selector (none, at first).", TermsEdgesTest::noneIsGarbledAtFirst);
-        check.edge("It has at most 120 codes", TermsEdgesTest::atMost120Codes);
-        check.edge("in their order", TermsEdgesTest::codesInTheirOrder);
-        check.edge("(none, at first)", TermsEdgesTest::noCodesAtFirst);
-        check.edge("a reader stands at a place of it (0, at first)", TermsEdgesTest::theReaderAtFirst);
+        check.sentence("by how much its start is early (less than 0) or late, -9 to 9", TermsEdgesTest::lateIsUpTo9);
+        check.sentence("(0, at first), and which of its units are garbled", TermsEdgesTest::inTimeAtFirst);
+        check.sentence("these are turned round, ahead of the selector", TermsEdgesTest::garbledAheadOfTheSelector);
+        check.sentence("ahead of the selector (none, at first).", TermsEdgesTest::noneIsGarbledAtFirst);
+        check.sentence("It has at most 120 codes", TermsEdgesTest::atMost120Codes);
+        check.sentence("in their order", TermsEdgesTest::codesInTheirOrder);
+        check.sentence("(none, at first)", TermsEdgesTest::noCodesAtFirst);
+        check.sentence("a reader stands at a place of it (0, at first)", TermsEdgesTest::theReaderAtFirst);
     }
 
     // ---- what it is
